@@ -179,6 +179,8 @@ public final class DealTest {
         x.officer(0, 0);
         gives(x, 3, true, 0, -1, 0, 0, 1, 1);
         gives(x, 1, true, 0, -1, 0, 0, -1, -1);
+        gives(x, 2, false, 10, 1, -1, -1, -1, -1);
+        gives(x, 3, true, 0, -1, 0, 0, 1, 1);
         VillagePay y = of(10, 20, 5);
         y.officer(0, 0);
         // 20 is as far from 10 as nothing; with 5 the gap is 5

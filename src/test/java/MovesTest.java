@@ -154,5 +154,10 @@ public final class MovesTest {
         x.give(1, 1, 0);
         x.dies(1);
         row(x, 0, 0, 1);
+        VillagePay y = of(2, 2);
+        y.give(0, 1, 0);
+        y.move(0, 0);
+        y.move(1, 1);
+        c.is("moved(0) ahead of any idle()", y.moved(0), 1);
     }
 }

@@ -199,6 +199,9 @@ public final class NewsTest {
         x.village(5, 0, 0);
         x.days(120);
         c.is("weather of seasons that ended, too", x.tried(1000, 2, 9, 100, 0), 750);
+        x.weather(2, 200);
+        c.is("all that comes, in a good season, too", x.tried(1000, 3, 1, 60, 0), 300 + 150 + 600);
+        c.is("nothing for THE CROWN", x.tried(1000, 3, 1, 60, 2), 0);
         c.is("health 0 at least", x.tried(1000, 20, 1, 150, 1), 0);
     }
 

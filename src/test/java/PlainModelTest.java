@@ -21,11 +21,13 @@ public final class PlainModelTest {
     private final List<String> told = new ArrayList<>();
     private final Checks checks;
     private final String run;
+    private final boolean jumpy;
 
     private PlainModelTest(int run, Checks checks) {
         this.random = new Random(run * 7919L + 5);
         this.run = "run " + run;
         this.checks = checks;
+        this.jumpy = run % 4 == 1;
     }
 
     public static void main(String[] args) {
@@ -47,7 +49,12 @@ public final class PlainModelTest {
             }
         }
         while (told.size() < CALLS) {
-            if (random.nextInt(12) == 0) {
+            if (jumpy && random.nextInt(15) == 0) {
+                // images and ways back by the dozen, so that the ways between them cross
+                if (!both(random.nextBoolean() ? 37 : 38, random.nextInt(3))) {
+                    return false;
+                }
+            } else if (random.nextInt(12) == 0) {
                 if (!text()) {
                     return false;
                 }

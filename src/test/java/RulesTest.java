@@ -92,6 +92,11 @@ public final class RulesTest {
         c.is("no place then", x.fault(1), -1);
         c.is("the tape behind a wrong day", x.end(1), -1);
         c.is("count(3)", x.count(3), 1);
+        VillagePay y = new VillagePay();
+        y.officer(0, 0);
+        Checks.rules(y, 0, "if rank=7 and rank=8:pay 5;if rank=7:take 5;");
+        Checks.rules(y, 0, "pay 5;");
+        c.is("nothing is left of a wrong text", y.scale(0, 0, 0, 0), 5);
     }
 
     private static void wrong(String text, int fault, int place) {
@@ -118,6 +123,8 @@ public final class RulesTest {
         wrong("p ay 5;", 1, 0);
         wrong("Pay 5;", 1, 0);
         wrong("payX 5;", 1, 3);
+        wrong("payz 5;", 1, 0);
+        wrong("zpay 5;", 1, 0);
         wrong("pay 12345;", 1, 4);
         wrong("pay 123 45;", 1, 8);
         wrong("pay -5;", 1, 4);
@@ -379,6 +386,15 @@ public final class RulesTest {
         c.is("50 days of the second year", y.due(0, 2, 0), 50);
         c.is("a season of it", y.due(0, 3, 0), 60);
         c.is("10 days of it", y.due(0, 4, 0), 10);
+        VillagePay z = new VillagePay();
+        z.days(30);
+        z.officer(1, 0);
+        Checks.rules(z, 0, "pay 119;");
+        Checks.rules(z, 31, "");
+        c.is("one day of 119", z.due(0, 0, 30), 0);
+        Checks.rules(z, 59, "pay 1;");
+        c.is("and one of 1", z.due(0, 0, 30), 1);
+        c.is("60 days of 1", z.due(0, 1, 30), 0);
     }
 
     private static void balance() {
@@ -398,5 +414,13 @@ public final class RulesTest {
         c.is("416 less 500", x.balance(0, 1, 180), -84);
         c.is("500 less 600 more", x.balance(0, 2, 180), -184);
         c.is("as known ahead of the order", x.balance(0, 2, 69), -1100);
+        VillagePay y = new VillagePay();
+        y.village(1000, 0, 0);
+        y.officer(1, 0);
+        y.give(0, 0, 0);
+        Checks.rules(y, 0, "pay 200;");
+        y.days(120);
+        c.is("500 less 100", y.balance(0, 0, 120), 400);
+        c.is("twice", y.balance(0, 1, 120), 800);
     }
 }

@@ -8,6 +8,7 @@ public final class WholeTest {
         image();
         anImageHasAll();
         imagesStandApart();
+        imagesOfTwoWays();
         anImageIsWrittenOver();
         c.finish();
     }
@@ -90,6 +91,7 @@ public final class WholeTest {
                 sum = sum * 31 + x.come(v, s);
                 sum = sum * 31 + x.weighed(v, s, x.count(4));
                 sum = sum * 31 + x.holder(v, 50 * s, x.count(4));
+                sum = sum * 31 + x.holder(v, 50 * s, 12);
             }
         }
         for (int o = 0; o < 3; o++) {
@@ -106,6 +108,16 @@ public final class WholeTest {
                 sum = sum * 31 + x.scale(o, 70, 0, what);
             }
         }
+        for (int w = 0; w < 5; w++) {
+            sum = sum * 31 + x.trust(w, x.count(4));
+            sum = sum * 31 + x.weighed(w % 3, 0, 12);
+        }
+        for (int o = 3; o < 6; o++) {
+            for (int what = 0; what < 5; what++) {
+                sum = sum * 31 + x.order(o, what);
+            }
+        }
+        sum = sum * 31 + x.idle();
         sum = sum * 31 + x.near(-1);
         sum = sum * 31 + x.fault(0);
         sum = sum * 31 + x.fault(1);
@@ -183,6 +195,57 @@ public final class WholeTest {
         }
         x.again(2);
         c.is("its own", x.about(2, 0), 12);
+    }
+
+    /** Each way fills the same rooms with other things, so that what an image leaves out is seen. */
+    private static void live(VillagePay x, int way) {
+        for (int i = 0; i < 3; i++) {
+            x.village(300 + 100 * i + 7 * way, 5 + 3 * i * way, 40 - 4 * i * way);
+            x.days(1 + 2 * way);
+            x.officer(i + 2 * way, 4 * i + way);
+            x.squeeze(i, 100 + 9 * i + 10 * way);
+        }
+        x.weather(0, 60 + 30 * way);
+        for (int i = 0; i < 6; i++) {
+            x.days(1 + way);
+            if (i % 2 == way) {
+                x.give((i + way) % 3, (i / 2 + way) % 3, 20 * i + 3 * way);
+            } else {
+                x.raise((i + way) % 3, (i + 4 * way) % 10, 25 * i + way);
+            }
+            x.say((i + way) % 5, i % 3, (i + way) % 2, 20 + 70 * i + way);
+            x.say((i + way + 1) % 5, i % 3, (i + way) % 2, 15 + 30 * i * way);
+        }
+        x.move(way, 1);
+        x.move(2, 2 - 2 * way);
+        Checks.rules(x, 3 + way, way == 0 ? "pay 100;if rank>2 and not had=0:pay 50;if not kin<1:crown 10;take 105;"
+            : "if season=0:pay 900;less 7;if famine:months 3;if served<1:pay 70;if not rank=1:crown 33;");
+        Checks.rules(x, 60 + way, way == 0 ? "if had>0 and rank<5:pay 33;" : "pay 80;if not kin=5 and had<2:stop;pay 1;");
+        x.days(150);
+        Checks.rules(x, 90, way == 0 ? "pay 8" : "stop;stop");
+        Checks.tape(x, way == 0 ? "pay 444;" : "pay 555;stop;");
+    }
+
+    private static void imagesOfTwoWays() {
+        VillagePay x = new VillagePay();
+        x.image(0);
+        live(x, 0);
+        int one = sum(x);
+        x.image(1);
+        x.again(0);
+        live(x, 1);
+        int other = sum(x);
+        x.image(2);
+        c.no("the ways differ", one == other);
+        int[] row = {1, 2, 1, 0, 2, 0, 1};
+        for (int k : row) {
+            x.again(k);
+            if (k > 0) {
+                c.is("image " + k, sum(x), k == 1 ? one : other);
+                c.is("the tape of image " + k, x.reign(1000), k);
+                c.is("its text", x.scale(0, 1000, 0, 0), k == 1 ? 444 : 555);
+            }
+        }
     }
 
     private static void anImageIsWrittenOver() {
