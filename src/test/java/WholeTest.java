@@ -9,6 +9,7 @@ public final class WholeTest {
         anImageHasAll();
         imagesStandApart();
         imagesOfTwoWays();
+        imagesKeepRulesAndWords();
         anImageIsWrittenOver();
         c.finish();
     }
@@ -245,6 +246,32 @@ public final class WholeTest {
                 c.is("the tape of image " + k, x.reign(1000), k);
                 c.is("its text", x.scale(0, 1000, 0, 0), k == 1 ? 444 : 555);
             }
+        }
+    }
+
+    private static void imagesKeepRulesAndWords() {
+        VillagePay x = new VillagePay();
+        x.village(10, 0, 0);
+        x.village(10, 0, 0);
+        x.image(0);
+        x.officer(3, 4);
+        x.say(0, 0, 5, 30);
+        Checks.rules(x, 0, "if not rank=9:pay 7;");
+        Checks.rules(x, 1, "if rank=3:pay 1;if kin<5:pay 2;if season>0:pay 4;if not had=5:pay 8;if kin=4:pay 16;");
+        x.image(1);
+        x.again(0);
+        x.officer(3, 1);
+        x.say(0, 1, 5, 60);
+        Checks.rules(x, 0, "if rank=3:pay 7;");
+        Checks.rules(x, 1, "if not kin=4:pay 1;if served>0:pay 2;if not rank<9:pay 4;if not rank=3:pay 8;if kin=4:pay 16;");
+        x.image(2);
+        for (int k = 1; k <= 4; k++) {
+            boolean one = k % 2 == 1;
+            x.again(one ? 1 : 2);
+            c.is("the first reign", x.scale(0, 0, 0, 0), 7);
+            c.is("the second reign", x.scale(0, 1, 0, 0), one ? 1 + 2 + 8 + 16 : 1);
+            c.is("words of village 0", x.weighed(0, 5, 0), one ? 30 : -1);
+            c.is("words of village 1", x.weighed(1, 5, 0), one ? -1 : 60);
         }
     }
 
