@@ -1160,8 +1160,12 @@ public final class VillagePay {
             int yearly = 0;
             int total = 0;
             for (int i = 0; i < SEASON_DAYS; i++) {
-                if (turning[i]) {
-                    yearly = yearlyOn(officer, first + i, k);
+                int day = first + i;
+                if (turning[i] && state.book.serves(officer, day)) {
+                    scale.reckon(officer, day, k);
+                    yearly = scale.yearly();
+                } else if (turning[i]) {
+                    yearly = 0;
                 }
                 total += yearly;
             }
@@ -1174,14 +1178,6 @@ public final class VillagePay {
                 total += hadIn(officer, s, k) - dueIn(officer, s, k);
             }
             return total;
-        }
-
-        private int yearlyOn(int officer, int day, int k) {
-            if (!state.book.serves(officer, day)) {
-                return 0;
-            }
-            scale.reckon(officer, day, k);
-            return scale.yearly();
         }
 
         private int daysHeld(int village, int officer, int first, int k) {
@@ -1240,7 +1236,8 @@ public final class VillagePay {
 
         int fitFor(int officer, int e) {
             Land land = state.land;
-            int wanted = yearlyNow(officer);
+            scale.reckon(officer, land.today, land.today);
+            int wanted = scale.yearly();
             int open = openTo(officer);
             int best = NONE;
             int bestApart = e;
@@ -1274,11 +1271,6 @@ public final class VillagePay {
             return open;
         }
 
-        private int yearlyNow(int officer) {
-            scale.reckon(officer, state.land.today, state.land.today);
-            return scale.yearly();
-        }
-
         void share(int officers, boolean best) {
             gatherPeople(officers);
             gatherLots();
@@ -1302,10 +1294,12 @@ public final class VillagePay {
 
         private void gatherPeople(int officers) {
             people = 0;
+            int today = state.land.today;
             for (int officer = 0; officer < MAX_OFFICERS && people < DEALT_OFFICERS; officer++) {
                 if ((officers >> officer & 1) != 0) {
+                    scale.reckon(officer, today, today);
                     person[people] = officer;
-                    lacks[people] = yearlyNow(officer);
+                    lacks[people] = scale.yearly();
                     people++;
                 }
             }
