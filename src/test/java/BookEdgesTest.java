@@ -67,12 +67,6 @@ public final class BookEdgesTest {
         }
     }
 
-    private static void goTo(VillagePay x, int day) {
-        for (int today = x.count(4); today < day; today = x.count(4)) {
-            x.days(Math.min(200, day - today));
-        }
-    }
-
     // ---- promise 8
 
     /** "OFFICERS, at most 10"; "NONE: there are 10". */
@@ -178,7 +172,7 @@ public final class BookEdgesTest {
         for (int day : new int[] {0, 60, 1199}) {
             VillagePay x = new VillagePay();
             x.village(10, 0, 0);
-            goTo(x, day);
+            Edges.goTo(x, day);
             x.officer(0, 0);
             x.give(0, 0, 0);
             c.is("one serves", x.count(8), 1);
@@ -198,7 +192,7 @@ public final class BookEdgesTest {
         x.village(10, 0, 0);
         x.officer(0, 0);
         x.give(0, 0, 0);
-        goTo(x, 1199);
+        Edges.goTo(x, 1199);
         x.officer(1, 1);
         x.give(1, 1, 1199);
         serves(x, 0, 0, true);
@@ -240,7 +234,7 @@ public final class BookEdgesTest {
         x.days(1);
         c.no("and on day 1", x.dies(0));
         c.is("it did not serve on day 0", x.rank(0, 0, 1), -1);
-        goTo(x, 1199);
+        Edges.goTo(x, 1199);
         x.officer(5, 5);
         c.yes("on the last day", x.dies(1));
         c.no("on the last day, twice", x.dies(1));

@@ -1,11 +1,27 @@
 /** What the tests share: counting wrong answers, and putting a text on the tape. */
 final class Checks {
+    private static final long MILLIS = 300_000;
+
     private final String name;
     private int seen;
     private int wrong;
 
     Checks(String name) {
         this.name = name;
+        Thread guard = new Thread(this::giveUp);
+        guard.setDaemon(true);
+        guard.start();
+    }
+
+    /** A call that does not end must not keep the tests from ending. */
+    private void giveUp() {
+        try {
+            Thread.sleep(MILLIS);
+        } catch (InterruptedException e) {
+            return;
+        }
+        System.out.println(name + ": no end");
+        Runtime.getRuntime().halt(1);
     }
 
     void is(String what, long got, long want) {

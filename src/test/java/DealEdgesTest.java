@@ -30,6 +30,7 @@ public final class DealEdgesTest {
         dealByRuleOfSeveral();
         dealBestOfSeveral();
         dealBestOfTheMost();
+        dealsOneAfterTheOther();
         dealtOfNoSuchVillage();
         dealtOfOneThatIsNotDealt();
         dealtAsDeal();
@@ -433,6 +434,19 @@ public final class DealEdgesTest {
         c.is("the greatest gap by rule", most.deal(7, false), 3 * 159984);
     }
 
+    /** "GAP BY RULE, or (best) of BEST": each is reckoned anew, whatever was asked ahead of it. */
+    private static void dealsOneAfterTheOther() {
+        VillagePay x = of(4, 10, 3, 9, 7, 1, 10);
+        for (int i = 0; i < 3; i++) {
+            gives(x, 3, false, 0, -1, 1, -1, 1, 0);
+            gives(x, 3, true, 0, 0, 1, 0, 1, -1);
+            gives(x, 8, false, 0, -1, -1, -1, -1, 3);
+            gives(x, 7, true, 0, 0, 1, 0, 1, 2);
+            gives(x, 7, false, 0, 2, 1, 2, 1, 0);
+            gives(x, 4, true, 0, 2, -1, 2, -1, -1);
+        }
+    }
+
     // ---- promise 26
 
     /** "NONE: [..] it is none of those that are dealt": no village at all. */
@@ -651,7 +665,7 @@ public final class DealEdgesTest {
         c.is("two", z.idle(), 2);
     }
 
-    /** "A MOVE can be done if THE CROWN holds its VILLAGE, or it is held by its own OFFICER"; "the first one [..], again and again". */
+    /** "A MOVE can be done if THE CROWN holds its VILLAGE, or it is held by its own OFFICER"; "the first one [..] again". */
     private static void rowOfMovesThatCanBeDone() {
         VillagePay x = Edges.led(DealEdgesTest::crowd);
         x.give(0, 1, 0);

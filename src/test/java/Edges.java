@@ -37,6 +37,15 @@ final class Edges {
         return b ? 1 : 0;
     }
 
+    /** Lets days go by up to that one, at most 200 at once. */
+    static void goTo(VillagePay x, int day) {
+        int today = x.count(4);
+        for (int i = 0; i < 10 && today < day; i++) {
+            x.days(Math.min(200, day - today));
+            today = x.count(4);
+        }
+    }
+
     /** The call has that answer, on an object that has led that life. */
     void answers(String what, Life life, long want, Call call) {
         c.is(what, call.on(led(life)), want);

@@ -45,13 +45,6 @@ public final class LandEdgesTest {
         }
     }
 
-    /** Goes to that day, at most 200 days at once. */
-    private static void goTo(VillagePay x, int day) {
-        for (int today = x.count(4); today < day; today = x.count(4)) {
-            x.days(Math.min(200, day - today));
-        }
-    }
-
     // ---- promise 1: "No VILLAGES, OFFICERS, RULES; DAY 0; no images."
 
     private static void nothingAtFirst() {
@@ -173,7 +166,7 @@ public final class LandEdgesTest {
     private static void weatherIs100AtFirst() {
         VillagePay x = new VillagePay();
         x.village(9999, 0, 0);
-        goTo(x, 1199);
+        Edges.goTo(x, 1199);
         for (int season = 0; season < 19; season++) {
             c.is("come of season " + season, x.come(0, season), 4999);
         }
@@ -187,7 +180,7 @@ public final class LandEdgesTest {
             int s = season;
             VillagePay x = new VillagePay();
             x.village(1000, 0, 0);
-            goTo(x, end - 1);
+            Edges.goTo(x, end - 1);
             c.yes("season " + s + " on its last day", x.weather(s, 150));
             x.days(1);
             c.no("season " + s + " on the day behind it", x.weather(s, 20));
@@ -198,7 +191,7 @@ public final class LandEdgesTest {
         e.refused("weather of the one that ended last", TOWN, 0, x -> Edges.bit(x.weather(1, 200)));
         e.changes("weather of the one that goes on", TOWN, 1, x -> Edges.bit(x.weather(2, 200)));
         VillagePay x = new VillagePay();
-        goTo(x, 1199);
+        Edges.goTo(x, 1199);
         c.no("season 18 on the last day of all", x.weather(18, 0));
         c.yes("season 19 on the last day of all", x.weather(19, 0));
         c.is("it is told", x.tried(200, 20, 20, 100, 0), 1900);
@@ -283,7 +276,7 @@ public final class LandEdgesTest {
                 x.village(1000, 0, 0);
                 x.officer(3, 3);
                 x.give(0, 0, 0);
-                goTo(x, row[0]);
+                Edges.goTo(x, row[0]);
             };
             String what = "on day " + row[0] + " days(" + row[1] + ")";
             if (row[2] == -1) {
@@ -293,7 +286,7 @@ public final class LandEdgesTest {
             }
         }
         VillagePay x = new VillagePay();
-        goTo(x, 1199);
+        Edges.goTo(x, 1199);
         c.is("the last day is known", x.trust(0, 1199), 50);
         c.is("no day behind it", x.trust(0, 1200), -1);
         c.is("an officer comes on it", x.officer(4, 4), 0);
@@ -336,7 +329,7 @@ public final class LandEdgesTest {
             slow.days(6);
         }
         slow.days(5);
-        goTo(fast, 1199);
+        Edges.goTo(fast, 1199);
         c.is("the same day", slow.count(4), fast.count(4));
         for (int s = 0; s < 19; s++) {
             c.is("come of season " + s, slow.come(0, s), fast.come(0, s));
@@ -477,7 +470,7 @@ public final class LandEdgesTest {
         VillagePay y = new VillagePay();
         y.village(100, 0, 0);
         y.squeeze(0, 150);
-        goTo(y, 540);
+        Edges.goTo(y, 540);
         c.is("10 less, 9 times", y.about(0, 3), 10);
         y.days(60);
         c.is("10 times: just 0", y.about(0, 3), 0);
@@ -500,7 +493,7 @@ public final class LandEdgesTest {
         e.answers("the last village", TOWN, 100, x -> x.come(2, 0));
         Edges.Life late = x -> {
             twelve(x);
-            goTo(x, 1199);
+            Edges.goTo(x, 1199);
         };
         e.answers("the 12th village, in the last season that ended", late, 55, x -> x.come(11, 18));
         e.answers("no 13th village", late, -1, x -> x.come(12, 18));

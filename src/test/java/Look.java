@@ -3,19 +3,27 @@ import java.util.List;
 
 /** All that can be asked of an object, asked of new ones that have led the same life, so that none has over 512 calls. */
 final class Look {
-    private static final int QUESTIONS = 250;
+    private static final int FEW = 250;
     private static final int[] SOME_DAYS = {0, 1, 59, 60, 119, 120, 600, 1199};
 
     private final Edges.Life life;
     private final List<String> answers = new ArrayList<>();
     private VillagePay twin;
-    private int asked = QUESTIONS;
+    private final int most;
+    private int asked;
     private final int today;
     private final int villages;
     private final int officers;
 
     Look(Edges.Life life) {
+        this(life, FEW);
+    }
+
+    /** Asks each object so many questions at most; a longer life leaves less room for them. */
+    Look(Edges.Life life, int most) {
         this.life = life;
+        this.most = most;
+        asked = most;
         today = x().count(4);
         villages = x().count(0);
         officers = x().count(1);
@@ -45,7 +53,7 @@ final class Look {
     }
 
     private VillagePay x() {
-        if (asked == QUESTIONS) {
+        if (asked == most) {
             twin = Edges.led(life);
             asked = 0;
         }
@@ -143,6 +151,7 @@ final class Look {
         for (int v = 0; v < villages; v++) {
             for (int s = 0; s < 20; s++) {
                 told("weighed", v, s, today, x().weighed(v, s, today));
+                told("weighed", v, s, today / 9, x().weighed(v, s, today / 9));
                 told("famine", v, s, today, Edges.bit(x().famine(v, s, today)));
             }
         }

@@ -41,12 +41,6 @@ public final class NewsEdgesTest {
         c.finish();
     }
 
-    private static void goTo(VillagePay x, int day) {
-        for (int today = x.count(4); today < day; today = x.count(4)) {
-            x.days(Math.min(200, day - today));
-        }
-    }
-
     private static VillagePay of(int... papers) {
         VillagePay x = new VillagePay();
         for (int paper : papers) {
@@ -187,7 +181,7 @@ public final class NewsEdgesTest {
         x.say(0, 0, 1, 0);
         x.say(0, 0, 18, 0);
         x.say(0, 0, 19, 0);
-        goTo(x, 1199);
+        Edges.goTo(x, 1199);
         int[][] want = {{0, 50}, {59, 50}, {60, 100}, {119, 100}, {120, 50}, {1139, 50}, {1140, 33}, {1199, 33}};
         for (int[] w : want) {
             c.is("trust on " + w[0], x.trust(0, w[0]), w[1]);
@@ -344,6 +338,18 @@ public final class NewsEdgesTest {
         x.days(60);
         // trusts 100, 60, 20: 1000 + 660 + 240 by 180
         c.is("1900 / 180", x.weighed(0, 5, 60), 10);
+        VillagePay y = of(200);
+        y.say(0, 0, 0, 100);
+        y.say(0, 0, 0, 0);
+        y.say(0, 0, 0, 0);
+        y.say(0, 0, 5, 1);
+        y.say(1, 0, 5, 79);
+        y.days(60);
+        // trusts 33 and 50: 33 + 3950 by 83 is one less than 48 times
+        c.is("3983 / 83", y.weighed(0, 5, 60), 47);
+        y.say(0, 0, 5, 20);
+        y.say(1, 0, 5, 20);
+        c.is("1660 / 83, just so many times", y.weighed(0, 5, 60), 20);
     }
 
     /** The most that all writers can say. */
@@ -494,12 +500,12 @@ public final class NewsEdgesTest {
         }
         VillagePay later = of(100);
         later.squeeze(0, 150);
-        goTo(later, 1199);
+        Edges.goTo(later, 1199);
         c.is("no other on the last day", later.tried(1000, 20, 20, 100, 0), 10000);
         c.is("nor its health", later.tried(1000, 1, 1, 100, 1), 100);
     }
 
-    /** "held by one after the other for t SEASONS each, 1 .. 20: in the last one of these each has SQUEEZE s, [..] else 100". */
+    /** "for t SEASONS each, 1 .. 20: in the last one of these each has SQUEEZE s, [..] else 100, and all that comes". */
     private static void triedForTSeasonsEach() {
         VillagePay x = new VillagePay();
         c.is("t 1, n 1", x.tried(1000, 1, 1, 150, 0), 750);
@@ -535,7 +541,7 @@ public final class NewsEdgesTest {
         c.is("paper 9999", x.tried(9999, 1, 1, 150, 0), 7499);
     }
 
-    /** "or (t 0) the holder has PAPER * s / 200, cut, a SEASON, out of what comes by SQUEEZE 100, or all of it, if it is less". */
+    /** "(t 0) the holder has PAPER * s / 200, cut, a SEASON, out of what comes [..], or all of it, if it is less". */
     private static void triedWithT0() {
         VillagePay x = new VillagePay();
         c.is("s 50: a quarter", x.tried(1000, 1, 0, 50, 0), 250);

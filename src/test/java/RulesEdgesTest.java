@@ -15,6 +15,7 @@ public final class RulesEdgesTest {
         reignLaterThanTheOnesAhead();
         reignTakesTheTape();
         reignWithAFaultIsNone();
+        faultsOfTheLastReign();
         reignWithoutATape();
         faultForAnotherWhat();
         faultOfTheLatestReign();
@@ -55,12 +56,6 @@ public final class RulesEdgesTest {
         balanceOfSeasonsAheadOfItsComing();
         balanceIsOfAllSeasons();
         c.finish();
-    }
-
-    private static void goTo(VillagePay x, int day) {
-        for (int today = x.count(4); today < day; today = x.count(4)) {
-            x.days(Math.min(200, day - today));
-        }
     }
 
     /** A tape of n bytes, all blanks. */
@@ -253,6 +248,43 @@ public final class RulesEdgesTest {
             c.is("[" + text + "] the take", x.scale(0, 1199, 0, 3), 140);
         }
         e.refused("the same fault again", life, -1, x -> Checks.rules(x, 9, "pay"));
+        VillagePay left = Edges.led(life);
+        Checks.rules(left, 9, "if rank=9 and not kin=3:pay 900;if not famine and rank=9:crown 5;pay");
+        Checks.rules(left, 9, "pay 7;pay 80;");
+        c.is("nothing is left of its tests", left.scale(0, 9, 0, 0), 87);
+        Checks.rules(left, 10, "stop;stop;stop");
+        left.reign(10);
+        c.is("nothing is left of its lines", left.scale(0, 10, 0, 0), 0);
+    }
+
+    /** "NONE: a FAULT.", where no room is left: the last reign, with a line or a test too many. */
+    private static void faultsOfTheLastReign() {
+        Edges.Life three = x -> {
+            x.officer(3, 3);
+            x.officer(4, 4);
+            for (int r = 0; r < 3; r++) {
+                Checks.rules(x, r, "if rank=3 and kin=3 and had=0 and not famine:pay " + (r + 1) + ";");
+            }
+            Checks.rules(x, 3, "pay");
+        };
+        String five = "if kin=1 and kin=1 and kin=1 and kin=1 and kin=1:pay 9;";
+        String[] texts = {"pay 1;".repeat(16) + "if rank=3 and kin=3:pay 1;", "pay 1;".repeat(15) + five, "stop;".repeat(100),
+            "if " + "rank=3 and ".repeat(40) + "rank=3:pay 1;", "pay 1;".repeat(20) + five};
+        int[][] want = {{3, 96}, {3, 90 + 43}, {3, 80}, {3, 3 + 4 * 11}, {3, 96}};
+        for (int i = 0; i < texts.length; i++) {
+            VillagePay x = Edges.led(three);
+            c.is("[" + texts[i] + "]", Checks.rules(x, 1199, texts[i]), -1);
+            c.is("[" + texts[i] + "] fault", x.fault(0), want[i][0]);
+            c.is("[" + texts[i] + "] place", x.fault(1), want[i][1]);
+            c.is("[" + texts[i] + "] three reigns", x.count(3), 3);
+            for (int r = 0; r < 3; r++) {
+                c.is("[" + texts[i] + "] pay of reign " + r, x.scale(0, r, 0, 0), r + 1);
+                c.is("[" + texts[i] + "] pay of reign " + r + " to another", x.scale(1, r, 0, 0), 0);
+            }
+            c.is("[" + texts[i] + "] and one that is right", Checks.rules(x, 1199, "if rank=3:pay 7;"), 1);
+            c.is("[" + texts[i] + "] its pay", x.scale(0, 1199, 0, 0), 7);
+            c.is("[" + texts[i] + "] its pay to another", x.scale(1, 1199, 0, 0), 0);
+        }
     }
 
     /** "TEXT: {LINE}": an empty tape, or blanks alone, is a text of no line. */
@@ -743,7 +775,7 @@ public final class RulesEdgesTest {
     private static void servedWholeYears() {
         for (int came : new int[] {0, 1, 60}) {
             VillagePay x = new VillagePay();
-            goTo(x, came);
+            Edges.goTo(x, came);
             x.officer(0, 0);
             for (int years = 1; years <= 9; years++) {
                 tests(x, "served=" + (years - 1), came + 120 * years - 1, true);
@@ -757,7 +789,7 @@ public final class RulesEdgesTest {
         tests(x, "served=0", 0, true);
         tests(x, "served=9", 1199, true);
         VillagePay y = new VillagePay();
-        goTo(y, 1199);
+        Edges.goTo(y, 1199);
         y.officer(0, 0);
         tests(y, "served=0", 1199, true);
     }
@@ -881,7 +913,7 @@ public final class RulesEdgesTest {
         int[][] rows = {{0, 600}, {59, 600}, {60, 600}, {61, 590}, {119, 10}, {120, 0}};
         for (int[] row : rows) {
             VillagePay x = new VillagePay();
-            goTo(x, row[0]);
+            Edges.goTo(x, row[0]);
             x.officer(0, 0);
             Checks.rules(x, 0, "pay 1200;");
             c.is("came on " + row[0], x.due(0, 1, 0), row[1]);
@@ -891,7 +923,7 @@ public final class RulesEdgesTest {
             VillagePay x = new VillagePay();
             x.officer(0, 0);
             Checks.rules(x, 0, "pay 1200;");
-            goTo(x, row[0]);
+            Edges.goTo(x, row[0]);
             x.dies(0);
             c.is("died on " + row[0], x.due(0, 1, 0), row[1]);
         }
@@ -961,7 +993,7 @@ public final class RulesEdgesTest {
         }
         for (int came : new int[] {0, 1, 59, 60, 61}) {
             VillagePay x = new VillagePay();
-            goTo(x, came);
+            Edges.goTo(x, came);
             x.officer(0, 0);
             Checks.rules(x, 0, "if served=1:pay 1200;");
             c.is("a year since " + came + ", season 2", x.due(0, 2, 0), 10 * Math.max(0, 60 - came));
@@ -1027,7 +1059,7 @@ public final class RulesEdgesTest {
             x.days(came);
             x.officer(0, 0);
             x.give(0, 0, 0);
-            goTo(x, 180);
+            Edges.goTo(x, 180);
             c.is("came on " + came + ": season 0", x.balance(0, 0, 180), 0);
             // the last day of season 1 has 10 coins, no part of THE CROWN, and 20 due
             c.is("came on " + came + ": season 1", x.balance(0, 1, 180), came == 119 ? -10 : 0);
@@ -1047,7 +1079,7 @@ public final class RulesEdgesTest {
         for (int s = 0; s < 19; s++) {
             x.weather(s, 200);
         }
-        goTo(x, 1199);
+        Edges.goTo(x, 1199);
         c.is("had alone", x.balance(0, 18, 1199), 19 * 9999);
         c.is("due alone", x.balance(1, 18, 1199), -19 * 79992);
         c.is("the first season alone", x.balance(1, 0, 0), -79992);

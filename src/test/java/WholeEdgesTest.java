@@ -19,18 +19,13 @@ public final class WholeEdgesTest {
         anImageIsAsItIsThen();
         anImageHasTheTapeAndTheFault();
         anImageOfTheMost();
+        imagesOfTwoWays();
         againOfNoneSuch();
         againLeavesOtherImages();
         againAndAgain();
         fiveHundredAndTwelveCalls();
         theConstant();
         c.finish();
-    }
-
-    private static void goTo(VillagePay x, int day) {
-        for (int today = x.count(4); today < day; today = x.count(4)) {
-            x.days(Math.min(200, day - today));
-        }
     }
 
     // ---- promise 36
@@ -82,7 +77,7 @@ public final class WholeEdgesTest {
         for (int o = 0; o < 10; o++) {
             x.move(o, o + 1);
         }
-        goTo(x, 1199);
+        Edges.goTo(x, 1199);
     }
 
     /** The same, where there is no room left. */
@@ -326,6 +321,75 @@ public final class WholeEdgesTest {
             x.again(0);
         });
         c.is("all is as it was, but " + back.firstUnlike(then), back.isLike(then), true);
+    }
+
+    /** Two ways to fill the same rooms with other things, up to the last of each row. */
+    private static void way(VillagePay x, int way) {
+        for (int v = 0; v < 12; v++) {
+            x.village(50 + v + 400 * way, (3 * v + way) % 51, (5 * v + 20 * way) % 51);
+        }
+        for (int o = 0; o < 10; o++) {
+            x.days(1 + way);
+            x.officer((o + 3 * way) % 10, (2 * o + way) % 10);
+        }
+        for (int i = 0; i < 50; i++) {
+            if (i % 2 == way) {
+                x.give((i + way) % 12, (i + 4 * way) % 10, 5 * i + way);
+            } else {
+                x.raise((i + way) % 10, (i + 5 * way) % 10, 6 * i + way);
+            }
+            x.say((i + way) % 5, (i + 5 * way) % 12, (i + way) % 3, 20 + i * (1 + way));
+            if (i % 10 == 0) {
+                x.days(2 + way);
+            }
+        }
+        for (int r = 0; r < 4; r++) {
+            String line = way == 0 ? "if not rank=1 and kin<9:pay " : "if rank<8 and not had=0:pay 1";
+            String last = way == 0 ? "if kin<9 and rank<9 and had<9 and not served>3:pay 500;" : "less 10;if not famine:crown 30;";
+            Checks.rules(x, 50 * r + way, (line + (r + 2) + ";").repeat(way == 0 ? r + 1 : 5 - r) + last);
+        }
+        for (int o = 0; o < 6; o++) {
+            x.move((o + way) % 10, (2 * o + way) % 12);
+        }
+        x.squeeze(11, 120 + way);
+        x.weather(1, 70 + 60 * way);
+        x.days(120);
+        x.dies(2 + way);
+        Checks.rules(x, 1000, way == 0 ? "stop;take 1;" : "pay");
+        Checks.tape(x, way == 0 ? "pay 44;" : "stop;pay 5;");
+    }
+
+    /** "All that is as image k has it": whatever stood there ahead of it, as if nothing else had ever been. */
+    private static void imagesOfTwoWays() {
+        Edges.Life oneLast = x -> {
+            x.image(0);
+            way(x, 1);
+            x.image(2);
+            x.again(0);
+            way(x, 0);
+            x.image(1);
+        };
+        Edges.Life otherLast = x -> {
+            x.image(0);
+            way(x, 0);
+            x.image(1);
+            x.again(0);
+            way(x, 1);
+            x.image(2);
+        };
+        Look one = new Look(oneLast, 100);
+        Look other = new Look(otherLast, 100);
+        c.no("the ways differ", one.isLike(other));
+        Look backToOne = new Look(x -> {
+            otherLast.lead(x);
+            x.again(1);
+        }, 100);
+        Look backToOther = new Look(x -> {
+            oneLast.lead(x);
+            x.again(2);
+        }, 100);
+        c.is("back to the one, but " + backToOne.firstUnlike(one), backToOne.isLike(one), true);
+        c.is("back to the other, but " + backToOther.firstUnlike(other), backToOther.isLike(other), true);
     }
 
     // ---- promise 38
